@@ -510,19 +510,15 @@ public final class FoundRegister {
             return thing != NONE && other != NONE && thing != other;
         }
 
-        /** Whether all that a thing needs by a group has failed, if it needs anything by it. */
+        /** Whether a thing is without all that it needs by a group, by which it needs something. */
         private boolean lost(int thing, int inGroup, Things things) {
-            boolean needs = false;
             for (int link = 0; link < count; link++) {
                 if (group[link] == inGroup && things.ofFind[needing[link]] == thing
-                        && holds(link, things)) {
-                    if (!failed[things.ofFind[needed[link]]]) {
-                        return false;
-                    }
-                    needs = true;
+                        && holds(link, things) && !failed[things.ofFind[needed[link]]]) {
+                    return false;
                 }
             }
-            return needs;
+            return true;
         }
 
         int failures() {

@@ -18,7 +18,9 @@ public final class ThingsTest {
         promise12OnlyFindsThatCount();
         promise12WrongInputs();
         promise13Disputed();
+        promise13LowestFind();
         promise13WrongInputs();
+        promises10To13WithSixtyFinds();
         CHECK.end();
     }
 
@@ -257,6 +259,14 @@ public final class ThingsTest {
         CHECK.due("disputed(1, 0), parted", 0, x.disputed(1, 0));
     }
 
+    private static void promise13LowestFind() {
+        FoundRegister x = new FoundRegister();
+        x.find(0, 1, 0, 0, 5, 6);
+        x.find(0, 1, 0, 0, 4, 6);
+        CHECK.due("disputed(0, 0), by the lowest find", 1, x.disputed(0, 0));
+        CHECK.due("disputed(1, 0), by the lowest find", 0, x.disputed(1, 0));
+    }
+
     private static void promise13WrongInputs() {
         FoundRegister x = new FoundRegister();
         for (int attribute : new int[] {MIN, -1, 2, MAX}) {
@@ -267,5 +277,24 @@ public final class ThingsTest {
         }
         CHECK.due("disputed(0, 9999)", 0, x.disputed(0, 9999));
         CHECK.due("disputed(1, 0)", 0, x.disputed(1, 0));
+    }
+
+    private static void promises10To13WithSixtyFinds() {
+        FoundRegister x = new FoundRegister();
+        for (int find = 0; find < 60; find++) {
+            x.find(0, find + 1, 0, 0, find, -1);
+        }
+        CHECK.due("things(0), all apart", 60, x.things(0));
+        CHECK.due("disputed(0, 0), all apart", 0, x.disputed(0, 0));
+        CHECK.due("value(59, 0, 0), all apart", 59, x.value(59, 0, 0));
+        for (int find = 59; find > 0; find--) {
+            x.tell(find, find - 1, 1);
+        }
+        CHECK.due("things(0), all joined", 1, x.things(0));
+        CHECK.due("thingOf(59, 0), all joined", 0, x.thingOf(59, 0));
+        CHECK.due("value(0, 0, 0), all joined", 59, x.value(0, 0, 0));
+        CHECK.due("value(0, 1, 0), all joined", -1, x.value(0, 1, 0));
+        CHECK.due("disputed(0, 0), all joined", 1, x.disputed(0, 0));
+        CHECK.due("disputed(1, 0), all joined", 0, x.disputed(1, 0));
     }
 }

@@ -16,6 +16,7 @@ public final class WishesTest {
         promise19NoneIsAnother();
         promise19ThingsOfEachDay();
         promise19WrongInputs();
+        promises18And19WithSixtyFinds();
         CHECK.end();
     }
 
@@ -179,5 +180,24 @@ public final class WishesTest {
             CHECK.badArgument("changed(0, 0, " + day + ")", () -> x.changed(0, 0, day));
         }
         CHECK.due("changed(1, 9999, 0)", 0, x.changed(1, 9999, 0));
+    }
+
+    private static void promises18And19WithSixtyFinds() {
+        FoundRegister x = new FoundRegister();
+        for (int find = 0; find < 60; find++) {
+            x.pass(1);
+            x.find(0, find % 30 + 1, 0, find + 1, find < 30 ? 2 : 3, -1);
+        }
+        x.setTerm(0, 999);
+        x.wish(0, 30, 0, 2);
+        x.wish(2, 60, 1, 0);
+        x.wish(2, 61, 1, 0);
+        CHECK.due("differing(0, 60)", 1, x.differing(0, 60));
+        CHECK.due("differing(0, 59)", 0, x.differing(0, 59));
+        CHECK.due("differing(1, 60)", 1, x.differing(1, 60));
+        CHECK.due("differing(2, 60), no find has the mark", 0, x.differing(2, 60));
+        CHECK.due("changed(0, 30, 60)", 30, x.changed(0, 30, 60));
+        CHECK.due("changed(0, 40, 60)", 20, x.changed(0, 40, 60));
+        CHECK.due("changed(1, 30, 60)", 0, x.changed(1, 30, 60));
     }
 }
