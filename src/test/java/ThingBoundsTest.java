@@ -142,6 +142,8 @@ public final class ThingBoundsTest {
                 "find(1, 1, 0, 0, -1, 5)", "find(2, 1, 0, 0, 1, 5)", "disputed(0, 0) = 1").end();
         story("13: the least and the greatest value").calls("find(0, 1, 0, 0, 0, 5)",
                 "find(0, 1, 0, 0, 99, 5)", "disputed(0, 0) = 1", "disputed(1, 0) = 0").end();
+        story("13: the greatest and then the least value").calls("find(0, 1, 0, 0, 99, 5)",
+                "find(0, 1, 0, 0, 0, 5)", "disputed(0, 0) = 1", "disputed(1, 0) = 0").end();
         story("13: a thing with three unlike values counts once").calls("find(0, 1, 0, 0, 0, 5)",
                 "find(0, 1, 0, 0, 1, 5)", "find(0, 1, 0, 0, 2, 5)", "disputed(0, 0) = 1").end();
         story("13: unlike values of two things").calls("find(0, 1, 0, 0, 0, 5)",
